@@ -1,0 +1,87 @@
+import java.lang.reflect.Constructor;
+import java.lang.reflect.Field;
+import java.lang.reflect.Method;
+import java.lang.reflect.Modifier;
+import java.nio.file.Files;
+import java.nio.file.Path;
+import java.util.Set;
+import java.util.TreeSet;
+import java.util.regex.Matcher;
+import java.util.regex.Pattern;
+
+/** The public face, and the rules of LANGUAGE.md that can be read off the class and its source. */
+public final class FaceTest {
+    private static final Set<String> FACE = Set.of("int method()", "int instruction(int,int,int,int,long)",
+        "int handler(int,int,int,int,int)", "int run(int,long,int)", "int step(int,long,int)", "long answer()", "int told(int)",
+        "int entries(int)", "int entry(int,int,int)", "int about(int,int)", "int clear()");
+    private static int wrong = 0;
+
+    private static void due(String what, Object got, Object want) {
+        if (!got.equals(want)) {
+            wrong++;
+            System.out.println(what + ": " + got + ", due is " + want);
+        }
+    }
+
+    public static void main(String[] args) throws Exception {
+        members();
+        nested();
+        source();
+        System.out.println(wrong == 0 ? "the face is as due" : wrong + " things are not as due");
+        if (wrong != 0) {
+            System.exit(1);
+        }
+    }
+
+    private static void members() {
+        Class<?> face = StepMarks.class;
+        due("public and final", Modifier.toString(face.getModifiers()), "public final");
+        Set<String> methods = new TreeSet<>();
+        Set<String> publicNames = new TreeSet<>();
+        for (Method m : face.getDeclaredMethods()) {
+            if (!Modifier.isPrivate(m.getModifiers())) {
+                due(m.getName(), Modifier.toString(m.getModifiers()), "public");
+                methods.add(m.toString().replaceAll("public (\\w+) StepMarks\\.", "$1 "));
+                publicNames.add(m.getName());
+            }
+        }
+        due("methods", methods, new TreeSet<>(FACE));
+        for (Method m : face.getDeclaredMethods()) {
+            if (Modifier.isPrivate(m.getModifiers())) {
+                due("a private name " + m.getName() + " is public, too", publicNames.contains(m.getName()), false);
+            }
+        }
+        Set<String> constants = new TreeSet<>();
+        for (Field f : face.getDeclaredFields()) {
+            if (!Modifier.isPrivate(f.getModifiers())) {
+                constants.add(Modifier.toString(f.getModifiers()) + " " + f.getType() + " " + f.getName());
+            }
+        }
+        String c = "public static final int ";
+        due("constants", constants, new TreeSet<>(Set.of(c + "NONE", c + "BAD", c + "FULL", c + "LARGE")));
+        Constructor<?>[] constructors = face.getDeclaredConstructors();
+        due("constructors", constructors.length, 1);
+        due("constructor", constructors[0].toString(), "public StepMarks()");
+    }
+
+    private static void nested() {
+        Class<?>[] classes = StepMarks.class.getDeclaredClasses();
+        due("at most twelve classes", classes.length < 12, true);
+        for (Class<?> one : classes) {
+            due(one + " is static", Modifier.isStatic(one.getModifiers()), true);
+            due(one + " is not seen outside", Modifier.isPublic(one.getModifiers()) || Modifier.isProtected(one.getModifiers()), false);
+            for (Field f : one.getDeclaredFields()) {
+                due("no static state in " + one, Modifier.isStatic(f.getModifiers()), false);
+            }
+        }
+    }
+
+    private static void source() throws Exception {
+        String text = Files.readString(Path.of("src/main/java/StepMarks.java"));
+        String code = text.replaceAll("(?s)/\\*.*?\\*/", " ").replaceAll("//[^\n]*", " ");
+        Matcher m = Pattern.compile("\\b(throw|throws|try|catch|synchronized|assert|import|package|float|Object|System)\\b|->|::|@|\"").matcher(code);
+        while (m.find()) {
+            due("in the source", m.group(), "not there");
+        }
+    }
+}
