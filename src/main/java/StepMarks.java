@@ -240,8 +240,7 @@ public final class StepMarks {
         }
 
         boolean isJump(int place) {
-            int act = act(place);
-            return act == JUMP || act == JUMP_ABOVE;
+            return 0 <= place && place < size && (acts[place] == JUMP || acts[place] == JUMP_ABOVE);
         }
 
         boolean leadsBack(int place) {
@@ -549,18 +548,23 @@ public final class StepMarks {
             answer = 0;
         }
 
-        /** Counts steps, if the BUDGET has so many left; else it is THE STOP, and none is counted. */
-        boolean count(long more) {
-            if (more > budget - steps) {
+        /** Counts a step, if the BUDGET has one left; else it is THE STOP, and none is counted. */
+        boolean countOne() {
+            if (steps >= budget) {
                 return false;
             }
-            steps += (int) more;
+            steps++;
             return true;
         }
 
         boolean countMake(long cells) {
-            // the 1 is taken from the BUDGET's side, as 1 more than the largest long would wrap
-            return cells <= budget - steps - 1 && count(1 + Math.max(cells, 0));
+            // the cells alone are held against what is left, as 1 more than the largest long would wrap
+            int left = budget - steps - 1;
+            if (left < 0 || cells > left) {
+                return false;
+            }
+            steps += 1 + (int) Math.max(cells, 0);
+            return true;
         }
 
         boolean beginInstruction() {
@@ -647,7 +651,7 @@ public final class StepMarks {
             frame.next = entry + 1;
             switch (marked.sort(entry)) {
                 case MARK:
-                    return tally.count(1);
+                    return tally.countOne();
                 case MARK_CELLS:
                     return tally.countMake(frame.register(marked.number(entry)));
                 case LEAD:
@@ -663,7 +667,7 @@ public final class StepMarks {
     private static final class PlainPacer implements Pacer {
         public boolean enter(Frame frame, Tally tally) {
             frame.next = 0;
-            return tally.count(1);
+            return tally.countOne();
         }
 
         public boolean fetch(Frame frame, Tally tally) {
@@ -675,12 +679,12 @@ public final class StepMarks {
 
         public boolean jump(Frame frame, Tally tally) {
             frame.next = frame.code.jumpPlace(frame.place);
-            return !frame.code.leadsBack(frame.place) || tally.count(1);
+            return !frame.code.leadsBack(frame.place) || tally.countOne();
         }
 
         public boolean take(Frame frame, int handler, Tally tally) {
             frame.next = frame.code.handlerPlace(handler);
-            return tally.count(1);
+            return tally.countOne();
         }
     }
 

@@ -55,6 +55,8 @@ public final class P05RunTest {
         c.throwsKind(reckons(Check.OVER, 0), 5, Check.ZERO, 0);
         c.throwsKind(reckons(Check.REST, 0), 0, Check.ZERO, 0);
         c.gives(Check.of(i(Check.ADD, 0, 0, 0), i(Check.RETURN, 0, 0, 0)), 21, 42);
+        c.gives(Check.of(i(Check.LESS, 3, 0, 0), i(Check.RETURN, 3, 0, 0)), 21, -21);
+        c.gives(Check.of(i(Check.LESS, 0, 3, 0), i(Check.RETURN, 0, 0, 0)), 21, 21);
         for (int r = 0; r < 4; r++) {
             c.gives(Check.of(i(Check.RETURN, r, 0, 0)), 9, r == 0 ? 9 : 0);
             c.gives(Check.of(i(Check.LOAD, r, 0, most), i(Check.RETURN, r, 0, 0)), 9, most);
@@ -136,6 +138,13 @@ public final class P05RunTest {
         z.handler(0, 0, 1, 1, Check.ALL);
         Check.add(z, i(Check.AGAIN, 0, 0, 0));
         c.both(z, 0, 0, 200, Check.THREW, 0, 3, 7, 0, 2, 1, 0, 0, 3);
+        // nor what a FRAME before it, at the same depth, caught: neither its kind nor its number
+        StepMarks w = Check.of(i(Check.CALL, 0, 0, 1), i(Check.CALL, 0, 0, 1));
+        Check.add(w, i(Check.JUMP_ABOVE, 0, 0, 2), i(Check.AGAIN, 0, 0, 0), i(Check.THROW, 0, 0, 0));
+        w.handler(1, 2, 3, 3, Check.ALL);
+        c.both(w, 0, 44, 200, Check.THREW, 0, 4, 7, 0, 2, 1, 0, 0, 7);
+        c.both(w, 1, 44, 200, Check.RETURNED, 0, 2, 0, 0, 1, 1, 0, 0, 3);
+        c.both(w, 1, 0, 200, Check.THREW, 0, 1, 7, 0, 1, 0, 0, 0, 2);
     }
 
     private static void guards() {
@@ -152,6 +161,10 @@ public final class P05RunTest {
         Check.add(x, i(Check.HOLD, 0, 0, 0), i(Check.HOLD, 0, 0, 1));
         Check.add(x, i(Check.LET, 0, 0, 0));
         c.both(x, 0, 0, 200, Check.THREW, 0, 4, 7, 0, 2, 0, 0, 4, 5 + 6 + 1);
+        // THE STOP lets go, too
+        StepMarks stopped = Check.of(i(Check.HOLD, 0, 0, 0), i(Check.JUMP, 0, 0, 1));
+        c.both(stopped, 0, 0, 5, Check.STOPPED, 0, 5, 0, 0, 1, 0, 0, 1, 6);
+        c.both(stopped, 0, 0, 5, Check.STOPPED, 0, 5, 0, 0, 1, 0, 0, 1, 6);
         // a FRAME that ends by a THROW lets go as well
         StepMarks y = Check.of(i(Check.CALL, 0, 0, 1), i(Check.CALL, 0, 0, 1), i(Check.HOLD, 0, 0, 0), i(Check.HOLD, 0, 0, 0));
         Check.add(y, i(Check.HOLD, 0, 0, 1), i(Check.THROW, 0, 0, 0));

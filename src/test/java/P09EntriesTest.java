@@ -43,6 +43,7 @@ public final class P09EntriesTest {
         c.due("70", x.entries(0), 70);
         c.both(x, 0, 0, 200, Check.RETURNED, 0, 1, 0, 0, 1, 0, 0, 0, 40);
         c.due("the other", x.entries(method), 2);
+        handlersToo(c);
         StepMarks y = Check.of();
         for (int n = 0; n < 34; n++) {
             y.instruction(0, Check.MAKE, 0, 0, 0);
@@ -51,5 +52,21 @@ public final class P09EntriesTest {
         y.instruction(0, Check.LOAD, 0, 0, 0);
         c.due("71", y.entries(0), StepMarks.LARGE);
         c.due("71", y.run(0, 0, 200), StepMarks.LARGE);
+    }
+
+    /** 37 INSTRUCTIONS with 14 JUMPS back are 2 + 37 + 28 = 67; each HANDLER has 2 more. */
+    private static void handlersToo(Check c) {
+        StepMarks x = Check.of();
+        for (int n = 0; n < 14; n++) {
+            x.instruction(0, Check.JUMP, 0, 0, 0);
+        }
+        for (int n = 0; n < 23; n++) {
+            x.instruction(0, Check.LOAD, 1, 0, n);
+        }
+        c.due("67", x.entries(0), 67);
+        x.handler(0, 0, 0, 0, 0);
+        c.due("69", x.entries(0), 69);
+        c.due("a HANDLER more is told its number all the same", x.handler(0, 0, 0, 0, 0), 1);
+        c.due("71", x.entries(0), StepMarks.LARGE);
     }
 }

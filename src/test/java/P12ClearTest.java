@@ -24,6 +24,10 @@ public final class P12ClearTest {
         c.due("nothing is left in it", x.entries(0), 2);
         c.due("the others are not back", x.about(1, 0), StepMarks.BAD);
         c.both(x, 0, 9, 10, Check.RETURNED, 0, 1, 0, 0, 1, 0, 0, 0, 1);
+        x.instruction(0, Check.THROW, 0, 0, 0);
+        c.both(x, 0, 9, 10, Check.THREW, 0, 1, 8, 9, 1, 0, 0, 0, 1);
+        x.clear();
+        x.method();
         x.instruction(0, Check.CALL, 0, 0, 1);
         c.both(x, 0, 9, 10, Check.STOPPED, 0, 1, 0, 0, 1, 0, 0, 0, 1);
         // a METHOD that was LARGE is not so when it comes anew
