@@ -4,6 +4,7 @@ import java.lang.reflect.Method;
 import java.lang.reflect.Modifier;
 import java.nio.file.Files;
 import java.nio.file.Path;
+import java.util.List;
 import java.util.Set;
 import java.util.TreeSet;
 import java.util.regex.Matcher;
@@ -14,6 +15,7 @@ public final class FaceTest {
     private static final Set<String> FACE = Set.of("int method()", "int instruction(int,int,int,int,long)",
         "int handler(int,int,int,int,int)", "int run(int,long,int)", "int step(int,long,int)", "long answer()", "int told(int)",
         "int entries(int)", "int entry(int,int,int)", "int about(int,int)", "int clear()");
+    private static final String SOURCE = "src/main/java/StepMarks.java";
     private static int wrong = 0;
 
     private static void due(String what, Object got, Object want) {
@@ -26,7 +28,12 @@ public final class FaceTest {
     public static void main(String[] args) throws Exception {
         members();
         nested();
+        size(StepMarks.class);
+        for (Class<?> one : StepMarks.class.getDeclaredClasses()) {
+            size(one);
+        }
         source();
+        lengths();
         System.out.println(wrong == 0 ? "the face is as due" : wrong + " things are not as due");
         if (wrong != 0) {
             System.exit(1);
@@ -76,10 +83,46 @@ public final class FaceTest {
         }
     }
 
+    /** Rules 5 and 11: static fields are constants, few parameters, few fields. */
+    private static void size(Class<?> one) {
+        int fields = 0;
+        for (Field f : one.getDeclaredFields()) {
+            if (Modifier.isStatic(f.getModifiers())) {
+                due(f + " is a constant", Modifier.isFinal(f.getModifiers()) && f.getType().isPrimitive(), true);
+            } else {
+                fields++;
+            }
+        }
+        due(one + " has at most twenty fields", fields <= 20, true);
+        for (Method m : one.getDeclaredMethods()) {
+            due(m + " takes at most seven parameters", m.getParameterCount() <= 7, true);
+        }
+    }
+
+    /** Rule 11: a method ends where its first line's indent comes back. */
+    private static void lengths() throws Exception {
+        List<String> lines = Files.readAllLines(Path.of(SOURCE));
+        int begin = -1;
+        String close = "";
+        int methods = 0;
+        for (int at = 0; at < lines.size(); at++) {
+            String line = lines.get(at);
+            if (line.matches(" {4}( {4})?(\\w+ )*\\w+\\(.*\\) \\{")) {
+                begin = at;
+                close = line.substring(0, line.length() - line.stripLeading().length()) + "}";
+                methods++;
+            } else if (line.equals(close) && begin >= 0) {
+                due("lines of " + lines.get(begin).trim(), at - begin + 1 <= 60, true);
+                begin = -1;
+            }
+        }
+        due("methods are found", methods > 60, true);
+    }
+
     private static void source() throws Exception {
-        String text = Files.readString(Path.of("src/main/java/StepMarks.java"));
+        String text = Files.readString(Path.of(SOURCE));
         String code = text.replaceAll("(?s)/\\*.*?\\*/", " ").replaceAll("//[^\n]*", " ");
-        Matcher m = Pattern.compile("\\b(throw|throws|try|catch|synchronized|assert|import|package|float|Object|System)\\b|->|::|@|\"").matcher(code);
+        Matcher m = Pattern.compile("\\b(throw|throws|try|catch|synchronized|assert|import|package|float|Object|System|\\w+Exact|NaN)\\b|->|::|@|\"").matcher(code);
         while (m.find()) {
             due("in the source", m.group(), "not there");
         }

@@ -29,6 +29,15 @@ public final class P05GuardsTest extends Check {
                 ends(x, 0, 200, RETURNED, 0, 1, 0, 0, 1, 0, 0, times, times + 1);
             }
         }
+        // as often as it was held it can be let go
+        for (int times = 1; times <= 19; times++) {
+            StepMarks x = of();
+            fill(x, 0, hold(1), times);
+            fill(x, 0, let(1), times);
+            ends(x, 0, 200, RETURNED, 0, 1, 0, 0, 1, 0, 0, times, 2 * times + 1);
+            fill(x, 0, let(1), 1);
+            ends(x, 0, 200, THREW, 0, 1, STATE, 0, 1, 0, 0, times, 2 * times + 1);
+        }
         // 49 rounds of 40
         StepMarks many = of(load(1, 1), less(0, 1));
         fill(many, 0, hold(2), 37);

@@ -12,6 +12,8 @@ public final class P05StepsTest extends Check {
         holds("MAKE: 1 and as many as there would be cells", P05StepsTest::cells);
         holds("MAKE: (1 if these are below 0)", P05StepsTest::belowZero);
         holds("MAKE: ahead of making: they are counted before SIZE comes", P05StepsTest::aheadOfMaking);
+        holds("MAKE: its STEPS are counted by whatever way it is come to", P05StepsTest::eachWay);
+        holds("MAKE: its STEPS are of what r tells then", P05StepsTest::whatTheRegisterTells);
         holds("more than the BUDGET tells: as many are not more", P05StepsTest::asMany);
         holds("that is not counted, and what it stands for is not begun: the FRAME (of the run)", P05StepsTest::firstFrame);
         holds("that is not counted, and what it stands for is not begun: the FRAME (of a CALL)", P05StepsTest::laterFrame);
@@ -70,6 +72,33 @@ public final class P05StepsTest extends Check {
         ends(x, -5, 3, RETURNED, -5, 3, 0, 0, 1, 1, 0, 0, 2);
         ends(x, -5, 2, STOPPED, 0, 2, 0, 0, 1, 0, 0, 0, 1);
         ends(x, -5, 1, STOPPED, 0, 1, 0, 0, 1, 0, 0, 0, 0);
+    }
+
+    private static void eachWay() {
+        StepMarks on = of(jump(2), gives(0), make(0, BYTES), count(1), gives(1));
+        ends(on, 7, 200, RETURNED, 7, 1 + 8, 0, 0, 1, 0, 1, 0, 4);
+        needs(on, 7, 9);
+        StepMarks onIfAbove = of(jumpAbove(0, 2), gives(0), make(0, BYTES), count(1), gives(1));
+        needs(onIfAbove, 7, 9);
+        StepMarks back = of(jump(4), make(0, BYTES), count(1), gives(1), jump(1));
+        ends(back, 7, 200, RETURNED, 7, 1 + 1 + 8, 0, 0, 1, 0, 1, 0, 5);
+        needs(back, 7, 10);
+        StepMarks taken = of(throwOwn(0), gives(0), make(0, BYTES), count(1), gives(1));
+        handler(taken, 0, 0, 1, 2, ALL);
+        ends(taken, 7, 200, RETURNED, 7, 1 + 1 + 8, 0, 0, 1, 1, 1, 0, 4);
+        needs(taken, 7, 10);
+        StepMarks behindCall = of(call(0, 1), make(0, BYTES), count(1), gives(1));
+        more(behindCall, gives(0));
+        ends(behindCall, 7, 200, RETURNED, 7, 1 + 1 + 8, 0, 0, 2, 0, 1, 0, 5);
+        needs(behindCall, 7, 10);
+    }
+
+    private static void whatTheRegisterTells() {
+        for (int r = 0; r < 4; r++) {
+            StepMarks x = of(load(0, 9), load(1, 9), load(2, 9), load(3, 9), load(r, 4), make(r, INTS), load(r, 2), make(r, INTS));
+            ends(x, 5, 200, RETURNED, 0, 1 + 5 + 3, 0, 0, 1, 0, 2, 0, 9);
+            needs(x, 5, 9);
+        }
     }
 
     private static void asMany() {
