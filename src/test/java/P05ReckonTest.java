@@ -21,6 +21,7 @@ public final class P05ReckonTest extends Check {
         holds("5: ZERO", () -> zero(5));
         holds("ZERO, and r stays as it was", P05ReckonTest::staysAtZero);
         holds("r becomes, s stays; r and s may be one", P05ReckonTest::oneAndTheSame);
+        holds("r and s are those that were told, at each PLACE from 0 on", P05ReckonTest::eachPlace);
     }
 
     /** What it gets, reckoned with this in REGISTER 2. */
@@ -121,5 +122,32 @@ public final class P05ReckonTest extends Check {
             returns(of(load(3, 4), i(act, 0, 3, 0), gives(3)), 9, 4);
             returns(of(load(3, 4), i(act, 3, 0, 0), gives(0)), 9, 9);
         }
+    }
+
+    /** At PLACE 0 all REGISTERS but the first are 0; at the others they are 1, 10, 100, 1000. */
+    private static void eachPlace() {
+        for (int r = 0; r < 4; r++) {
+            for (int s = 0; s < 4; s++) {
+                long first = r == 0 ? 9 : 0;
+                long second = s == 0 ? 9 : 0;
+                returns(of(add(r, s), gives(r)), 9, first + second);
+                returns(of(less(r, s), gives(r)), 9, first - second);
+                for (int place = 4; place <= 38; place += 17) {
+                    StepMarks x = of(load(0, 1), load(1, 10), load(2, 100), load(3, 1000));
+                    fill(x, 0, load(0, 1), place - 4);
+                    fill(x, 0, add(r, s), 1);
+                    fill(x, 0, gives(r), 1);
+                    returns(x, 9, power(r) + power(s));
+                }
+            }
+        }
+    }
+
+    private static long power(int of) {
+        long all = 1;
+        for (int n = 0; n < of; n++) {
+            all *= 10;
+        }
+        return all;
     }
 }

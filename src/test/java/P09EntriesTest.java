@@ -108,6 +108,17 @@ public final class P09EntriesTest extends Check {
             handler(jumps, 0, 0, 40, 40, ALL);
         }
         due("130", jumps.entries(0), LARGE);
+        // JUMPS and HANDLERS whose ENTRIES would come behind the 70th
+        StepMarks behind = of();
+        fill(behind, 0, make(0, BYTES), 34);
+        for (int act = JUMP; act <= JUMP_ABOVE; act++) {
+            for (int v : new int[] {0, 33, 40}) {
+                fill(behind, 0, i(act, 0, 0, v), 1);
+                due("71 or more", behind.entries(0), LARGE);
+            }
+        }
+        handler(behind, 0, 0, 40, 39, ALL);
+        due("71 or more", behind.entries(0), LARGE);
         // 40 INSTRUCTIONS and 4 HANDLERS leave room for 10 JUMPS back, or 20 MAKES
         StepMarks both = of();
         fill(both, 0, jumpAbove(0, 0), 5);
